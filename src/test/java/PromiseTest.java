@@ -490,14 +490,13 @@ public final class PromiseTest {
         x.image();
         x.restore();
         due("14 an image does not bring it back", x.mended(0), STATE);
-        // Either the first has 1 or the second has 1, for one error each: the least of the first is 0.
         x = withLaw("m2f");
         first(x, MAN, 5);
         first(x, WOMAN, 5);
         born(x, CHILD, MAN, 0, 1);
         x.write(0, 3);
         x.write(2, 1);
-        due("14 two in conflict", x.mended(0), 0);
+        due("14 both as they tell", x.mended(0), 0);
         due("14 the father as written", x.mended(1), 3);
         due("14 the mother by her child", x.mended(2), 1);
         x = withLaw("f");
@@ -509,6 +508,16 @@ public final class PromiseTest {
         due("14 one of both", x.mended(0), 1);
         due("14 the least of like ones", x.mended(1), 3);
         due("14 the second free", x.mended(2), 0);
+        // The last one has the name of 2, if those of 0 and 1 are alike, else that of 1: the first ones are least.
+        x = withLaw("f3g");
+        first(x, MAN, 5);
+        first(x, WOMAN, 5);
+        first(x, WOMAN, 5);
+        born(x, TWIN, MAN, 0, 1);
+        born(x, CHILD, MAN, 3, 2);
+        x.write(4, 1);
+        int[] want = {0, 0, 0, 1, NONE};
+        for (int k = 0; k < 5; k++) due("14 the first ahead of the last " + k, x.mended(k), want[k]);
     }
 
     private static void ways() {
@@ -640,6 +649,11 @@ public final class PromiseTest {
         due("18 nephew", x.near(6, 5), 3);
         x.dies(6);
         due("18 the dead are near", x.near(6, 3), 2);
+        born(x, CHILD, WOMAN, 3, 1);
+        due("18 the shorter way is the mother's", x.near(7, 1), 1);
+        due("18 the father's way alone", x.near(7, 0), 2);
+        born(x, CHILD, WOMAN, 0, 4);
+        due("18 the shorter way is the father's", x.near(0, 8), 1);
     }
 
     private static void kin() {
