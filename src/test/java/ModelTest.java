@@ -14,7 +14,7 @@ import java.util.regex.Pattern;
 public final class ModelTest {
     private static final int NONE = -1, GAP = -2, UNKNOWN = -101, OUTSIDE = -102, STATE = -103, FULL = -104;
     private static final String RULES = "fmgp";
-    private static final int RUNS = 1000, CALLS = 512;
+    private static final int RUNS = 1000, CALLS = 511;
 
     private record Person(int kind, int sex, int father, int mother) {
         boolean hasParents() {
