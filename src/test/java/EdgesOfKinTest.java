@@ -41,6 +41,7 @@ public final class EdgesOfKinTest {
         Due.due("one step, by the mother", y.near(11, 1), 1);
         Due.due("by one as well as by two", y.near(11, 10), 1);
         Due.due("by the mother of both, not by fathers", y.near(11, 8), 2);
+        Due.due("the other way round", y.near(8, 11), 2);
 
         Due.says("18", "NEAR; NONE. (0: itself)");
         for (int i = 0; i < 12; i++) Due.due("itself " + i, y.near(i, i), 0);
@@ -233,6 +234,11 @@ public final class EdgesOfKinTest {
         // A fourth can have nobody, though he could have any; the first three come ahead of him.
         Due.man(x, 5);
         Due.weds("the fourth, nobody", x, 2, 4, 0, 5, 1, 3, Due.NONE);
+        // Of two ways to wed all, the first man's least woman counts, not the first woman's least man.
+        x = new OtherName();
+        for (int i = 0; i < 3; i++) Due.woman(x, i);
+        for (int i = 0; i < 3; i++) Due.man(x, i);
+        Due.weds("by men, not by women", x, 5, 3, 4, 1, 2, 0);
         // The first can have 3 and 4, the second 3 alone, the third 4 alone: two at most, the first has 3.
         x = new OtherName();
         Due.man(x, 5);

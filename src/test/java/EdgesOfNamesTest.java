@@ -51,8 +51,22 @@ public final class EdgesOfNamesTest {
         Due.son(x, 3, 1);
         Due.names("g of a mother with another name", x, 0, 1, 0, 1, 1);
 
+        // The mother's mother is person 0.
+        x = Due.withLaw("g");
+        Due.woman(x, 1);
+        Due.man(x, 4);
+        Due.born(x, Due.HEIR, Due.WOMAN, 1, 0);
+        Due.son(x, 1, 2);
+        Due.names("g of the very first", x, 1, 4, 4, 1);
+
         Due.says("terms", "3 \"p\" that of the FATHER's MOTHER (of the FATHER, if he has none)");
         Due.names("p", family("p"), 0, 1, 2, 0, 0, 2);
+        x = Due.withLaw("p");
+        Due.woman(x, 1);
+        Due.man(x, 4);
+        Due.born(x, Due.HEIR, Due.MAN, 1, 0);
+        Due.son(x, 2, 0);
+        Due.names("p of the very first", x, 1, 4, 4, 1);
 
         Due.says("terms", "\"t\" and a RULE (for TWINS; \"m\", if it is not told)");
         String[] laws = {"p5p", "p", "ftf", "ftm", "ftg", "mtp", "f3gtp"};
@@ -218,16 +232,14 @@ public final class EdgesOfNamesTest {
         Due.says("terms", "nobody of less number with the same FATHER has it (of any KIND, ALIVE or not)");
         int[] kinds = {Due.CHILD, Due.TWIN, Due.HEIR};
         for (int kind : kinds) {
-            OtherName x = Due.withLaw("ftf");
+            OtherName x = Due.withLaw("m");
             Due.man(x, 3);
+            Due.woman(x, 3);
             Due.woman(x, 1);
             Due.born(x, kind, Due.MAN, 0, 1);
-            x.dies(2);
-            Due.page(x, "f");
-            x.law();
-            Due.born(x, Due.HEIR, Due.MAN, 0, 1);
-            // Behind a twin, who is called 1 by "f" alone, the heir is the first to have it.
-            Due.names("behind kind " + kind, x, 3, 1, kind == Due.TWIN ? 1 : 3, kind == Due.TWIN ? 3 : 1);
+            x.dies(3);
+            Due.born(x, Due.HEIR, Due.MAN, 0, 2);
+            Due.names("behind kind " + kind, x, 3, 3, 1, 3, 1);
         }
         OtherName x = Due.withLaw("mtf");
         Due.man(x, 3);

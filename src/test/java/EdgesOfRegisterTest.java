@@ -172,6 +172,12 @@ public final class EdgesOfRegisterTest {
         for (int i = 0; i < 5; i++) Due.man(y, i);
         for (int i = 0; i < 50; i++) Due.due("five of them", y.mended(0), Due.STATE);
         Due.due("refused ones were not done", y.count(6), 0);
+        OtherName z = new OtherName();
+        for (int i = 1; i <= 40; i++) {
+            Due.due("there is none", z.mended(4), Due.NONE);
+            Due.due("it was done, though", z.count(6), i);
+        }
+        Due.due("the 41st", z.mended(4), Due.STATE);
     }
 
     private static void ways() {

@@ -78,6 +78,41 @@ public final class FaceTest {
         }
     }
 
+    private static void fault(boolean is, String what) {
+        if (is) {
+            failures++;
+            System.out.println(what);
+        }
+    }
+
+    /** Rules 2, 5 and 11: classes inside are static, static fields final, fields and parameters few. */
+    private static void sizes(Class<?> c) {
+        fault(c != OtherName.class && !Modifier.isStatic(c.getModifiers()), c.getName() + " is not static");
+        int fields = 0;
+        for (Field f : c.getDeclaredFields()) {
+            boolean ofClass = Modifier.isStatic(f.getModifiers());
+            fault(ofClass && !Modifier.isFinal(f.getModifiers()), f + " is not final");
+            fields += ofClass ? 0 : 1;
+        }
+        fault(fields > 20, c.getName() + " has " + fields + " fields");
+        for (Method m : c.getDeclaredMethods()) {
+            fault(m.getParameterCount() > 7, m + " has more than seven parameters");
+        }
+        for (Class<?> inside : c.getDeclaredClasses()) sizes(inside);
+    }
+
+    /** Rule 11: a method goes from its head, which a brace ends, to a brace as far in as the head is. */
+    private static void methodsAreShort(String code) {
+        String[] lines = code.split("\n");
+        for (int i = 0; i < lines.length; i++) {
+            if (!lines[i].matches(" +[a-z][\\w\\[\\]. ]* \\w+\\(.*\\) \\{") || lines[i].matches(" +(if|for|while|switch|return|else)\\b.*")) continue;
+            String end = lines[i].substring(0, lines[i].length() - lines[i].stripLeading().length()) + "}";
+            int last = i;
+            while (last < lines.length - 1 && !lines[last].equals(end)) last++;
+            fault(last - i > 60, "a method of " + (last - i) + " lines: " + lines[i].strip());
+        }
+    }
+
     private static void language() throws java.io.IOException {
         String text = Files.readString(Path.of("src/main/java/OtherName.java"));
         String code = text.replaceAll("(?s)/\\*.*?\\*/", " ").replaceAll("//[^\\n]*", " ");
@@ -87,10 +122,9 @@ public final class FaceTest {
                 System.out.println("the source has " + pattern);
             }
         }
-        if (code.split("\\bclass\\b").length - 1 > 12) {
-            failures++;
-            System.out.println("more than twelve classes");
-        }
+        fault(code.split("\\bclass\\b").length - 1 > 12, "more than twelve classes");
+        methodsAreShort(code);
+        sizes(OtherName.class);
     }
 
     public static void main(String[] args) throws Exception {
